@@ -1,0 +1,65 @@
+/** Counts what answered wrong, and tells it. */
+final class Check {
+    interface Call {
+        long answer();
+    }
+
+    private final String name;
+    private int made;
+    private int wrong;
+
+    Check(String name) {
+        this.name = name;
+    }
+
+    void same(String call, long got, long due) {
+        made++;
+        if (got != due) {
+            tell(call + " answered " + got + ", due is " + due);
+        }
+    }
+
+    void yes(String what, boolean got) {
+        same(what, got ? 1 : 0, 1);
+    }
+
+    void no(String what, boolean got) {
+        same(what, got ? 1 : 0, 0);
+    }
+
+    void noIndex(String call, Call made) {
+        fails(call, IndexOutOfBoundsException.class, made);
+    }
+
+    void noArgument(String call, Call made) {
+        fails(call, IllegalArgumentException.class, made);
+    }
+
+    void noState(String call, Call made) {
+        fails(call, IllegalStateException.class, made);
+    }
+
+    private void fails(String call, Class<?> due, Call tried) {
+        made++;
+        try {
+            tell(call + " answered " + tried.answer() + ", due is " + due.getSimpleName());
+        } catch (RuntimeException thrown) {
+            if (thrown.getClass() != due) {
+                tell(call + " threw " + thrown + ", due is " + due.getSimpleName());
+            }
+        }
+    }
+
+    private void tell(String what) {
+        wrong++;
+        if (wrong <= 20) {
+            System.out.println(name + ": " + what);
+        }
+    }
+
+    /** Returns whether every answer was as due. */
+    boolean close() {
+        System.out.println(name + ": " + made + " answers, " + wrong + " wrong");
+        return wrong == 0 && made > 0;
+    }
+}
