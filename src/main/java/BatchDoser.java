@@ -37,19 +37,19 @@ public final class BatchDoser {
     private static final int MOST_IDLE_TICKS = 20;
     private static final int THOUSANDTHS = 1000;
 
+    private final Dosing dosing;
     private final Scale scale;
     private final Bins bins;
     private final Lots lots;
     private final Recipe recipe;
-    private final Dosing dosing;
     private long carriedThousandths;
 
     public BatchDoser() {
-        scale = new Scale();
-        bins = new Bins();
-        lots = new Lots();
-        recipe = new Recipe();
-        dosing = new Dosing(scale, bins, lots, recipe);
+        dosing = new Dosing();
+        scale = dosing.scale;
+        bins = dosing.bins;
+        lots = dosing.lots;
+        recipe = dosing.recipe;
     }
 
     // ---- the scale
@@ -343,8 +343,8 @@ public final class BatchDoser {
 
         Bins() {
             for (int bin = 0; bin < BINS; bin++) {
-                put(margins, bin, FIRST_MARGIN);
-                put(flights, bin, FIRST_FLIGHT);
+                margins[bin] = FIRST_MARGIN;
+                flights[bin] = FIRST_FLIGHT;
             }
         }
 
@@ -436,10 +436,10 @@ public final class BatchDoser {
 
     /** The batch that is dosed: which step it is at, and in which state. */
     private static final class Dosing {
-        private final Scale scale;
-        private final Bins bins;
-        private final Lots lots;
-        private final Recipe recipe;
+        private final Scale scale = new Scale();
+        private final Bins bins = new Bins();
+        private final Lots lots = new Lots();
+        private final Recipe recipe = new Recipe();
         private int state = IDLE;
         private int alarm = NO_ALARM;
         private int heldState = IDLE;
@@ -452,13 +452,6 @@ public final class BatchDoser {
         private boolean isWeighed;
         private int started;
         private int finished;
-
-        Dosing(Scale scale, Bins bins, Lots lots, Recipe recipe) {
-            this.scale = scale;
-            this.bins = bins;
-            this.lots = lots;
-            this.recipe = recipe;
-        }
 
         void bring(int reading) {
             scale.take(reading);

@@ -17,6 +17,7 @@ final class BatchTests {
         idleTicksThatChangeTheState(check);
         idleTicksBelowZero(check);
         greatestNetOutlivesHold(check);
+        stepsBeginAnew(check);
         holdAndResume(check);
         resumeCountsAnew(check);
         resumeAfterAlarmsOneAndTwo(check);
@@ -277,6 +278,20 @@ final class BatchTests {
         x.resume();
         x.ticks(31, 19);
         check.same("the net ahead of it does", x.tick(31), 6);
+    }
+
+    private static void stepsBeginAnew(Check check) {
+        BatchDoser x = tared(100, 0);
+        x.tick(30);
+        x.ticks(30, 15);
+        x.abort();
+        x.ticks(0, 4);
+        x.start();
+        x.tick(0);
+        check.same("the idle ticks begin at 0", x.ticks(0, 19), 2);
+        check.same("the greatest net begins at 0", x.tick(1), 2);
+        check.same("and is the one of this step", x.ticks(1, 19), 2);
+        check.same("the 20th", x.tick(1), 6);
     }
 
     private static void holdAndResume(Check check) {

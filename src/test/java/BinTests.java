@@ -202,6 +202,11 @@ final class BinTests {
         check.same("used(1, 3)", x.used(1, 3), 50);
         check.same("firstBatch(0)", x.firstBatch(0), 1);
         check.same("firstBatch(1)", x.firstBatch(1), 3);
+        BatchDoser z = new BatchDoser();
+        z.fill(2, 9);
+        z.addStep(2, 1, 0);
+        dose(z, 1);
+        check.same("1 is something", z.firstBatch(0), 0);
         BatchDoser y = new BatchDoser();
         y.fill(1, 500);
         y.addStep(1, 100, 1000);
