@@ -5,6 +5,13 @@ public final class AllTests {
         good &= BinTests.pass();
         good &= BatchTests.pass();
         good &= BeltTests.pass();
+        good &= ScaleBounds.pass();
+        good &= BinBounds.pass();
+        good &= StateBounds.pass();
+        good &= StepBounds.pass();
+        good &= BatchBounds.pass();
+        good &= BeltBounds.pass();
+        good &= RefusedCalls.pass();
         good &= RandomTests.pass();
         if (!good) {
             System.exit(1);

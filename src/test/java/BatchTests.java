@@ -26,22 +26,6 @@ final class BatchTests {
         return check.close();
     }
 
-    /** A batch of one step from bin 0, tared at 0. */
-    private static BatchDoser tared(int target, int tolerance) {
-        BatchDoser x = new BatchDoser();
-        x.addStep(0, target, tolerance);
-        x.start();
-        x.ticks(0, 4);
-        return x;
-    }
-
-    /** The same in the state 4, with the reading as the latest one. */
-    private static BatchDoser settling(int target, int tolerance, int reading) {
-        BatchDoser x = tared(target, tolerance);
-        x.ticks(reading, 2);
-        return x;
-    }
-
     private static void stepsAreAdded(Check check) {
         BatchDoser x = new BatchDoser();
         check.noIndex("addStep(-1, ..)", () -> x.addStep(-1, 0, 0));
@@ -113,42 +97,42 @@ final class BatchTests {
         check.same("net()", x.net(), 80);
         check.same("settled", x.tick(80), 2);
         check.same("net()", x.net(), 0);
-        check.same("one change a tick", tared(50, 0).state(), 3);
+        check.same("one change a tick", Given.tared(50, 0).state(), 3);
     }
 
     private static void fineEndsAtTheFlight(Check check) {
-        BatchDoser x = tared(100, 0);
+        BatchDoser x = Given.tared(100, 0);
         check.same("coarse", x.tick(49), 2);
         check.same("at target less margin", x.tick(50), 3);
         check.same("below target less flight", x.tick(79), 3);
         check.same("at target less flight", x.tick(80), 4);
-        BatchDoser y = tared(100, 0);
+        BatchDoser y = Given.tared(100, 0);
         check.same("one change a tick", y.tick(500), 3);
         check.same("then the next", y.tick(500), 4);
     }
 
     private static void settlingTakesFourTicks(Check check) {
-        BatchDoser x = settling(100, 0, 100);
+        BatchDoser x = Given.settling(100, 0, 100);
         check.same("state()", x.state(), 4);
         check.same("three ticks", x.ticks(100, 3), 4);
         check.same("the fourth", x.tick(100), 0);
         check.same("done()", x.done(), 1);
-        BatchDoser y = settling(100, 0, 100);
+        BatchDoser y = Given.settling(100, 0, 100);
         y.ticks(100, 2);
         check.same("the scale swings", y.ticks(104, 2), 4);
         check.same("and has to settle", y.ticks(100, 3), 4);
         check.same("then it is weighed", y.tick(100), 0);
-        BatchDoser z = settling(100, 5, 100);
+        BatchDoser z = Given.settling(100, 5, 100);
         z.ticks(100, 3);
         check.same("a swing within the band", z.tick(103), 0);
         check.same("register(0)", z.register(0), 103);
     }
 
     private static void tolerancesDecide(Check check) {
-        check.same("at the lower tolerance", settling(100, 6, 94).ticks(94, 4), 0);
-        check.same("below it", settling(100, 6, 93).ticks(93, 4), 5);
-        check.same("at the upper tolerance", settling(100, 6, 106).ticks(106, 4), 0);
-        BatchDoser x = settling(100, 6, 107);
+        check.same("at the lower tolerance", Given.settling(100, 6, 94).ticks(94, 4), 0);
+        check.same("below it", Given.settling(100, 6, 93).ticks(93, 4), 5);
+        check.same("at the upper tolerance", Given.settling(100, 6, 106).ticks(106, 4), 0);
+        BatchDoser x = Given.settling(100, 6, 107);
         check.same("above it", x.ticks(107, 4), 6);
         check.same("alarm()", x.alarm(), 2);
         check.same("done()", x.done(), 0);
@@ -156,7 +140,7 @@ final class BatchTests {
     }
 
     private static void joggingTakesTwoTicks(Check check) {
-        BatchDoser x = settling(100, 5, 90);
+        BatchDoser x = Given.settling(100, 5, 90);
         check.same("jogs()", x.jogs(), 0);
         check.same("jogging", x.ticks(90, 4), 5);
         check.same("jogs()", x.jogs(), 1);
@@ -170,7 +154,7 @@ final class BatchTests {
     }
 
     private static void flightIsLearnedOnceAStep(Check check) {
-        BatchDoser x = settling(100, 0, 80);
+        BatchDoser x = Given.settling(100, 0, 80);
         x.ticks(80, 4);
         check.same("by the first weighing", x.flight(0), 15);
         x.ticks(80, 2);
@@ -190,7 +174,7 @@ final class BatchTests {
     }
 
     private static void fiveJogsAndAnAlarm(Check check) {
-        BatchDoser x = settling(100, 0, 90);
+        BatchDoser x = Given.settling(100, 0, 90);
         for (int jog = 1; jog <= 5; jog++) {
             check.same("jogging", x.ticks(90, 4), 5);
             check.same("jogs()", x.jogs(), jog);
@@ -207,13 +191,13 @@ final class BatchTests {
     }
 
     private static void idleTicksAlarm(Check check) {
-        BatchDoser x = tared(100, 0);
+        BatchDoser x = Given.tared(100, 0);
         check.same("19 idle ticks", x.ticks(0, 19), 2);
         check.same("a rise", x.tick(1), 2);
         check.same("19 idle ticks", x.ticks(1, 19), 2);
         check.same("the 20th", x.tick(1), 6);
         check.same("alarm()", x.alarm(), 3);
-        BatchDoser y = tared(100, 0);
+        BatchDoser y = Given.tared(100, 0);
         y.tick(30);
         y.ticks(10, 10);
         check.same("29 is not above 30", y.ticks(29, 9), 2);
@@ -225,7 +209,7 @@ final class BatchTests {
     }
 
     private static void idleTicksGoOnIntoFine(Check check) {
-        BatchDoser x = tared(100, 0);
+        BatchDoser x = Given.tared(100, 0);
         x.tick(40);
         x.ticks(40, 15);
         x.setMargin(0, 60);
@@ -237,14 +221,14 @@ final class BatchTests {
     }
 
     private static void idleTicksThatChangeTheState(Check check) {
-        BatchDoser x = tared(100, 0);
+        BatchDoser x = Given.tared(100, 0);
         x.tick(40);
         x.ticks(40, 19);
         x.setMargin(0, 60);
         check.same("the 20th changes the state", x.tick(40), 3);
         check.same("the 21st alarms", x.tick(40), 6);
         check.same("alarm()", x.alarm(), 3);
-        BatchDoser y = tared(100, 0);
+        BatchDoser y = Given.tared(100, 0);
         y.tick(40);
         y.ticks(40, 19);
         y.setMargin(0, 60);
@@ -254,20 +238,20 @@ final class BatchTests {
     }
 
     private static void idleTicksBelowZero(Check check) {
-        BatchDoser x = tared(100, 0);
+        BatchDoser x = Given.tared(100, 0);
         check.same("as low as ever", x.ticks(-30, 19), 2);
         check.same("the 20th", x.tick(-30), 6);
-        BatchDoser y = tared(100, 0);
+        BatchDoser y = Given.tared(100, 0);
         y.ticks(-30, 10);
         y.ticks(-20, 9);
         check.same("a rise that stays below 0 is idle", y.tick(-10), 6);
-        BatchDoser z = tared(100, 0);
+        BatchDoser z = Given.tared(100, 0);
         z.ticks(-30, 19);
         check.same("a rise above 0", z.tick(1), 2);
     }
 
     private static void greatestNetOutlivesHold(Check check) {
-        BatchDoser x = tared(100, 0);
+        BatchDoser x = Given.tared(100, 0);
         x.tick(30);
         x.hold();
         x.ticks(45, 9);
@@ -281,7 +265,7 @@ final class BatchTests {
     }
 
     private static void stepsBeginAnew(Check check) {
-        BatchDoser x = tared(100, 0);
+        BatchDoser x = Given.tared(100, 0);
         x.tick(30);
         x.ticks(30, 15);
         x.abort();
@@ -323,7 +307,7 @@ final class BatchTests {
     }
 
     private static void resumeCountsAnew(Check check) {
-        BatchDoser x = settling(100, 0, 90);
+        BatchDoser x = Given.settling(100, 0, 90);
         x.ticks(90, 3);
         x.hold();
         x.ticks(90, 5);
@@ -336,7 +320,7 @@ final class BatchTests {
         check.same("jogging: one more", x.tick(90), 5);
         check.same("the second", x.tick(90), 4);
         check.same("jogs()", x.jogs(), 1);
-        BatchDoser y = tared(100, 0);
+        BatchDoser y = Given.tared(100, 0);
         y.ticks(0, 19);
         y.hold();
         y.resume();

@@ -15,17 +15,6 @@ final class BinTests {
         return check.close();
     }
 
-    /** Doses one step of the given net, whose tolerance lets it pass. */
-    static void dose(BatchDoser x, int net) {
-        x.start();
-        x.ticks(0, 4);
-        x.ticks(net, 2);
-        x.ticks(net, 4);
-        if (x.state() == 6) {
-            x.resume();
-        }
-    }
-
     private static void fillNumbersLots(Check check) {
         BatchDoser x = new BatchDoser();
         check.same("fill(3, 1)", x.fill(3, 1), 0);
@@ -82,15 +71,15 @@ final class BinTests {
     private static void flightIsLearned(Check check) {
         BatchDoser x = new BatchDoser();
         x.addStep(2, 100, 1000);
-        dose(x, 107);
+        Given.dose(x, 107);
         check.same("7 / 4", x.flight(2), 21);
-        dose(x, 97);
+        Given.dose(x, 97);
         check.same("-3 / 4, rounded down", x.flight(2), 20);
-        dose(x, 104);
+        Given.dose(x, 104);
         check.same("4 / 4", x.flight(2), 21);
-        dose(x, 96);
+        Given.dose(x, 96);
         check.same("-4 / 4", x.flight(2), 20);
-        dose(x, 95);
+        Given.dose(x, 95);
         check.same("-5 / 4, rounded down", x.flight(2), 18);
         check.same("other bins", x.flight(0), 20);
         check.same("the cut-off", x.start(), 5);
@@ -103,7 +92,7 @@ final class BinTests {
     private static void flightHasBounds(Check check) {
         BatchDoser x = new BatchDoser();
         x.addStep(0, 100, 1000);
-        dose(x, 5000);
+        Given.dose(x, 5000);
         check.same("at most 500", x.flight(0), 500);
         BatchDoser y = new BatchDoser();
         y.addStep(0, 400, 1000);
@@ -149,7 +138,7 @@ final class BinTests {
         x.fill(1, 80);
         x.addStep(1, 100, 1000);
         check.same("nothing used", x.firstBatch(0), -1);
-        dose(x, 100);
+        Given.dose(x, 100);
         check.same("leftOf(0)", x.leftOf(0), 0);
         check.same("leftOf(1)", x.leftOf(1), 1000);
         check.same("leftOf(2)", x.leftOf(2), 30);
@@ -169,12 +158,12 @@ final class BinTests {
     private static void untracedStaysUntraced(Check check) {
         BatchDoser x = new BatchDoser();
         x.addStep(3, 100, 1000);
-        dose(x, 100);
+        Given.dose(x, 100);
         check.same("register(3)", x.register(3), 100);
         check.same("all untraced", x.registerByLots(3), 100);
         x.fill(3, 30);
         check.same("a lot filled later", x.leftOf(0), 30);
-        dose(x, 90);
+        Given.dose(x, 90);
         check.same("register(3)", x.register(3), 190);
         check.same("registerByLots(3)", x.registerByLots(3), 190);
         check.same("stock(3)", x.stock(3), 0);
@@ -189,15 +178,15 @@ final class BinTests {
         x.addStep(0, 100, 1000);
         x.start();
         x.abort();
-        dose(x, 100);
-        dose(x, 110);
+        Given.dose(x, 100);
+        Given.dose(x, 110);
         check.same("used(0, 0)", x.used(0, 0), 0);
         check.same("used(0, 1)", x.used(0, 1), 100);
         check.same("used(0, 2)", x.used(0, 2), 110);
         check.same("firstBatch(0)", x.firstBatch(0), 1);
         check.same("firstBatch(1)", x.firstBatch(1), -1);
         check.noIndex("used(0, 3)", () -> x.used(0, 3));
-        dose(x, 90);
+        Given.dose(x, 90);
         check.same("used(0, 3)", x.used(0, 3), 40);
         check.same("used(1, 3)", x.used(1, 3), 50);
         check.same("firstBatch(0)", x.firstBatch(0), 1);
@@ -205,7 +194,7 @@ final class BinTests {
         BatchDoser z = new BatchDoser();
         z.fill(2, 9);
         z.addStep(2, 1, 0);
-        dose(z, 1);
+        Given.dose(z, 1);
         check.same("1 is something", z.firstBatch(0), 0);
         BatchDoser y = new BatchDoser();
         y.fill(1, 500);

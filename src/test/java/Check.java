@@ -5,11 +5,19 @@ final class Check {
     }
 
     private final String name;
+    private String sentence = "";
+    private int sentences;
     private int made;
     private int wrong;
 
     Check(String name) {
         this.name = name;
+    }
+
+    /** Begins the test of one sentence of the document, which is told with what is wrong from here on. */
+    void sentence(String words) {
+        sentence = " [" + words + "]";
+        sentences++;
     }
 
     void same(String call, long got, long due) {
@@ -39,7 +47,7 @@ final class Check {
         fails(call, IllegalStateException.class, made);
     }
 
-    private void fails(String call, Class<?> due, Call tried) {
+    void fails(String call, Class<?> due, Call tried) {
         made++;
         try {
             tell(call + " answered " + tried.answer() + ", due is " + due.getSimpleName());
@@ -53,13 +61,18 @@ final class Check {
     private void tell(String what) {
         wrong++;
         if (wrong <= 20) {
-            System.out.println(name + ": " + what);
+            System.out.println(name + ": " + what + sentence);
         }
+    }
+
+    int made() {
+        return made;
     }
 
     /** Returns whether every answer was as due. */
     boolean close() {
-        System.out.println(name + ": " + made + " answers, " + wrong + " wrong");
+        String told = sentences > 0 ? sentences + " sentences, " : "";
+        System.out.println(name + ": " + told + made + " answers, " + wrong + " wrong");
         return wrong == 0 && made > 0;
     }
 }
