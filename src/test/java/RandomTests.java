@@ -2,8 +2,9 @@ import java.util.Random;
 
 /** Long runs of calls, the same ones every time, each answer held against the model. */
 final class RandomTests {
-    private static final int RUNS = 3000;
-    private static final int CALLS = 120;
+    private static final int RUNS = 10000;
+    /** An object has 512 calls; the last ones are for looking at all its answers. */
+    private static final int CALLS_BEFORE_THE_LAST_LOOK = 400;
     private static final int[] WILD = {
         Integer.MIN_VALUE, -1001, -501, -1, 0, 4, 6, 30, 51, 101, 1001, 100001, Integer.MAX_VALUE
     };
@@ -20,13 +21,19 @@ final class RandomTests {
 
     static boolean pass() {
         Check check = new Check("random runs");
+        int most = 0;
         for (int run = 0; run < RUNS; run++) {
+            String when = "run " + run + ": ";
             RandomTests test = new RandomTests(run, check);
-            for (int call = 0; call < CALLS; call++) {
+            int before = check.made();
+            while (check.made() - before < CALLS_BEFORE_THE_LAST_LOOK) {
                 test.call();
-                test.compare("run " + run + ", call " + call + ": ");
+                test.glance(when);
             }
+            test.compare(when);
+            most = Math.max(most, check.made() - before);
         }
+        check.yes("at most 512 calls for an object", most <= 512);
         return check.close();
     }
 
@@ -215,6 +222,36 @@ final class RandomTests {
         check.noArgument("belt", () -> x.belt(Math.max(wild, 10001), any, any));
     }
 
+    /** A look at some of the answers, for the object has calls for no more. */
+    private void glance(String when) {
+        check.same(when + "state()", x.state(), m.state);
+        check.same(when + "alarm()", x.alarm(), m.alarm);
+        switch (from(0, 3)) {
+            case 0:
+                check.same(when + "net()", x.net(), m.net());
+                break;
+            case 1:
+                compareBin(when, from(0, 3));
+                break;
+            case 2:
+                check.same(when + "jogs()", x.jogs(), m.state == 0 ? 0 : m.jogs);
+                break;
+            default:
+                glanceAtLots(when);
+                break;
+        }
+    }
+
+    private void glanceAtLots(String when) {
+        int lot = from(0, 29);
+        int batch = from(0, 19);
+        if (lot < m.lots.size() && batch < m.batches) {
+            check.same(when + "used", x.used(lot, batch), m.usage(lot)[batch]);
+        } else {
+            check.noIndex(when + "used", () -> x.used(lot, batch));
+        }
+    }
+
     private void compare(String when) {
         check.same(when + "state()", x.state(), m.state);
         check.same(when + "alarm()", x.alarm(), m.alarm);
@@ -226,25 +263,30 @@ final class RandomTests {
         check.same(when + "net()", x.net(), m.net());
         check.same(when + "isSettled()", x.isSettled() ? 1 : 0, m.settled() ? 1 : 0);
         for (int bin = 0; bin < 4; bin++) {
-            check.same(when + "flight", x.flight(bin), m.flight[bin]);
-            check.same(when + "gate", x.gate(bin), m.gate(bin));
-            check.same(when + "stock", x.stock(bin), m.stock(bin));
-            check.same(when + "register", x.register(bin), m.register(bin));
-            check.same(when + "registerByLots", x.registerByLots(bin), m.register(bin));
+            compareBin(when, bin);
         }
         for (int lot = 0; lot < m.lots.size(); lot++) {
             compareLot(when, lot);
         }
     }
 
+    private void compareBin(String when, int bin) {
+        check.same(when + "flight", x.flight(bin), m.flight[bin]);
+        check.same(when + "gate", x.gate(bin), m.gate(bin));
+        check.same(when + "stock", x.stock(bin), m.stock(bin));
+        check.same(when + "register", x.register(bin), m.register(bin));
+        check.same(when + "registerByLots", x.registerByLots(bin), m.register(bin));
+    }
+
     private void compareLot(String when, int lot) {
         int[] usage = m.usage(lot);
         int first = -1;
+        int sum = 0;
         for (int batch = m.batches - 1; batch >= 0; batch--) {
-            check.same(when + "used", x.used(lot, batch), usage[batch]);
             first = usage[batch] > 0 ? batch : first;
+            sum += usage[batch];
         }
         check.same(when + "firstBatch", x.firstBatch(lot), first);
-        check.same(when + "leftOf", x.leftOf(lot), m.lots.get(lot).amount() - m.gone(lot));
+        check.same(when + "leftOf", x.leftOf(lot), m.lots.get(lot).amount() - sum);
     }
 }

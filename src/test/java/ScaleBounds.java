@@ -2,6 +2,7 @@
 final class ScaleBounds {
     static boolean pass() {
         Check check = new Check("bounds of the scale");
+        idleAndEmptyAtFirst(check);
         zeroAndTareAtFirst(check);
         fourReadings(check);
         lastFourWithinTheBand(check);
@@ -15,6 +16,7 @@ final class ScaleBounds {
         readingsOfTicks(check);
         countOfTicks(check);
         ticksBringAsMany(check);
+        fiftyTicks(check);
         zeroInStateZero(check);
         zeroWhenSettled(check);
         zeroWithinBounds(check);
@@ -31,6 +33,30 @@ final class ScaleBounds {
         BatchDoser x = new BatchDoser();
         x.ticks(reading, 4);
         return x;
+    }
+
+    private static void idleAndEmptyAtFirst(Check check) {
+        check.sentence("Begins idle, with an empty recipe and empty bins");
+        BatchDoser x = new BatchDoser();
+        check.same("state()", x.state(), 0);
+        check.same("step()", x.step(), -1);
+        check.same("batches()", x.batches(), 0);
+        check.same("done()", x.done(), 0);
+        check.same("clearRecipe()", x.clearRecipe(), 0);
+        for (int bin = 0; bin <= 3; bin++) {
+            check.same("stock", x.stock(bin), 0);
+            check.same("register", x.register(bin), 0);
+            check.same("registerByLots", x.registerByLots(bin), 0);
+        }
+        check.noIndex("leftOf(0)", () -> x.leftOf(0));
+        check.noIndex("firstBatch(0)", () -> x.firstBatch(0));
+        check.noIndex("used(0, 0)", () -> x.used(0, 0));
+        check.noState("start()", x::start);
+        check.noState("hold()", x::hold);
+        check.noState("resume()", x::resume);
+        check.noState("abort()", x::abort);
+        check.same("another object is another", new BatchDoser().fill(0, 1) + new BatchDoser().fill(0, 1), 0);
+        check.same("fill(0, 1)", x.fill(0, 1), 0);
     }
 
     private static void zeroAndTareAtFirst(Check check) {
@@ -259,9 +285,26 @@ final class ScaleBounds {
         check.same("5 ticks of tracking", y.gross(), -3);
         BatchDoser z = Given.tared(100, 0);
         check.same("ticks(0, 50)", z.ticks(0, 50), 6);
+        check.same("alarm()", z.alarm(), 3);
         z.resume();
         check.same("ticks(0, 19)", z.ticks(0, 19), 2);
         check.same("ticks(0, 1)", z.ticks(0, 1), 6);
+    }
+
+    private static void fiftyTicks(Check check) {
+        check.sentence("Brings the same reading several times (50 times)");
+        for (int ticks = 49; ticks <= 50; ticks++) {
+            BatchDoser x = new BatchDoser();
+            x.addStep(0, 1, 1);
+            x.addStep(0, 1, 1);
+            x.addStep(0, 1, 0);
+            x.tick(7000);
+            x.start();
+            x.tick(0);
+            // Taring at the third tick, two steps of 6 ticks, and one with 5 jogs: 2 + 6 + 6 + 36.
+            check.same("ticks(0, " + ticks + ")", x.ticks(0, ticks), ticks == 50 ? 6 : 4);
+            check.same("alarm()", x.alarm(), ticks == 50 ? 1 : 0);
+        }
     }
 
     private static void zeroInStateZero(Check check) {

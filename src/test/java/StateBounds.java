@@ -279,11 +279,13 @@ final class StateBounds {
         x.ticks(92, 6);
         check.same("jogs()", x.jogs(), 2);
         check.same("the second time", x.flight(0), 18);
-        x.ticks(100, 5);
+        x.ticks(92, 5);
         x.hold();
         x.resume();
-        x.ticks(100, 4);
+        x.ticks(92, 4);
+        check.same("jogs()", x.jogs(), 3);
         check.same("the third time, after hold", x.flight(0), 18);
+        x.ticks(100, 6);
         check.same("the next step", x.step(), 1);
         x.tick(100);
         Given.settle(x, 208);
