@@ -27,12 +27,16 @@ final class Check {
         }
     }
 
+    void same(String call, boolean got, boolean due) {
+        same(call, got ? 1 : 0, due ? 1 : 0);
+    }
+
     void yes(String what, boolean got) {
-        same(what, got ? 1 : 0, 1);
+        same(what, got, true);
     }
 
     void no(String what, boolean got) {
-        same(what, got ? 1 : 0, 0);
+        same(what, got, false);
     }
 
     void noIndex(String call, Call made) {
